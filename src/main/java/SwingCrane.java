@@ -57,7 +57,6 @@ public final class SwingCrane {
     private static final int LINE_JOB = 10;
     private static final int LINE_SEED = 11;
     private static final int LINES = 12;
-    private static final int ORDER_STILL = 17;
     private static final int WORDS = 18;
     private static final String LANGUAGE =
             "width deep top swing block spot start wind do pile job seed east west lift lower wait still ";
@@ -701,7 +700,7 @@ public final class SwingCrane {
 
         /** All five in one number, for a standing pose. */
         int packed() {
-            return column << 14 | speed + 2 << 11 | depth << 8 | sway + MOST_SWING << 4 | last + MOST_SWING;
+            return column << 14 | (speed + 2) << 11 | depth << 8 | (sway + MOST_SWING) << 4 | last + MOST_SWING;
         }
 
         void unpack(int number) {
@@ -938,7 +937,7 @@ public final class SwingCrane {
 
         /** Five bits a letter, the first of six highest. */
         private static int letterBits(int sign, int ahead) {
-            return ahead < LONGEST_WORD ? sign - 'a' + 1 << 5 * (LONGEST_WORD - 1 - ahead) : 0;
+            return ahead < LONGEST_WORD ? (sign - 'a' + 1) << 5 * (LONGEST_WORD - 1 - ahead) : 0;
         }
 
         int takeBytes(int a, int b, int c, int d, int e) {
@@ -1490,7 +1489,7 @@ public final class SwingCrane {
             near = new Pose();
         }
 
-        /** Rows are kept and grow at least to the double, so that a run makes few of them. */
+        /** Rows are kept and grow at least twofold, so that a run makes few of them. */
         void begin(Space inSpace, boolean goesBack, int byCodes, int mostSway) {
             space = inSpace;
             backward = goesBack;
