@@ -368,6 +368,16 @@ public final class PromiseTests {
         due("count(7): no tick", x.count(7), 0);
         due("count(8): no log", x.count(8), 0);
         due("count(9)", x.count(9), 1);
+        x = crane("width 8;deep 3;pile 0 2;");
+        due("reach(0)", x.reach(0), 7 * 3 + 1);
+        x.grab();
+        due("reach(0) with a box", x.reach(0), 7 * 2 + 1);
+        x.undo();
+        due("reach(0) as before", x.reach(0), 7 * 3 + 1);
+        x.keep();
+        x.grab();
+        x.back();
+        due("reach(0) as before", x.reach(0), 7 * 3 + 1);
         x = crane("width 8;deep 3;pile 0 1;");
         due("grab(): not deep enough", x.grab(), false);
         steps(x, 5);
@@ -402,8 +412,11 @@ public final class PromiseTests {
         due("drop(): too high", x.drop(), false);
         steps(x, 5);
         due("drop()", x.drop(), true);
-        x = crane("width 8;deep 3;start 2 1;pile 2 2;");
+        x = crane("width 8;deep 3;start 2 2;");
+        due("drop(): nothing to drop, though there is room", x.drop(), false);
+        x = crane("width 8;deep 3;start 2 1;pile 2 2;pile 3 1;");
         x.grab();
+        due("fewest steps are those with a box", x.can() & 1 << 5, 0);
         steps(x, 7);
         due("drop(): not still", x.drop(), false);
         steps(x, 4, 4, 1);
@@ -414,7 +427,8 @@ public final class PromiseTests {
         due("drop()", x.drop(), true);
         due("pile(5)", x.pile(5), 1);
         due("pile(2)", x.pile(2), 1);
-        due("count(12)", x.count(12), 2);
+        due("count(12)", x.count(12), 3);
+        due("reach(0) with the new piles", x.reach(0), 8 * 3 - 3);
     }
 
     private static void pile() {
@@ -434,6 +448,7 @@ public final class PromiseTests {
         for (int column = 0; column < 6; column++) {
             due("free(" + column + ")", x.free(column), want[column]);
         }
+        due("free(15)", crane("block 15 15 0;").free(15), 0);
         due("free(6)", x.free(6), -1);
         due("free(-1)", x.free(-1), -1);
     }
@@ -607,6 +622,9 @@ public final class PromiseTests {
         due("halt()", x.halt(), 0);
         steps(x, 7);
         due("halt()", x.halt(), 3);
+        x = crane("width 5;deep 2;start 1 2;");
+        steps(x, 7);
+        due("halt(): at the deepest", x.halt(), 3);
         due("halt() of what doesn't stand", crane(STUCK).halt(), -2);
         x = crane("width 4;deep 2;top 1;swing 1;");
         steps(x, 7, 4);
@@ -627,6 +645,11 @@ public final class PromiseTests {
         steps(x, 8);
         due("rests(0)", x.rests(0), 6);
         due("rests(1)", x.rests(1), 1);
+        x = crane("width 9;deep 5;start 6 5;");
+        steps(x, 7);
+        due("halt() by 0, 6, 0", x.halt(), 3);
+        due("rests(0)", x.rests(0), 8);
+        due("rests(1)", x.rests(1), 2);
         due("rests(2)", x.rests(2), -1);
         due("rests(-1)", x.rests(-1), -1);
         due("rests(0): no way", crane(STUCK).rests(0), -2);
@@ -678,6 +701,10 @@ public final class PromiseTests {
         due("stop(-1)", x.stop(-1), -1);
         due("stop(0): a wall", crane(WALL).stop(0), -2);
         due("stop(3): a wall", crane(WALL).stop(3), -1);
+        x = crane("spot a 0 1;spot b 0 1;");
+        due("tour(): it is there", x.tour(), 0);
+        due("stop(0)", x.stop(0), 0);
+        due("stop(1)", x.stop(1), 1);
         x = crane("spot a 5 1;spot b 5 1;spot c 5 1;");
         for (int i = 0; i < 3; i++) {
             due("stop(" + i + "): the first by numbers", x.stop(i), i);
@@ -893,6 +920,7 @@ public final class PromiseTests {
         due("nearest(): no way", crane(STUCK).nearest(), -2);
         due("nearest(): over the wall there is none", crane(WALL).nearest(), -2);
         due("nearest()", crane("start 3 1;spot a 2 1;spot b 3 1;").nearest(), 1);
+        due("nearest()", crane("start 3 1;spot a 3 1;spot b 2 1;").nearest(), 0);
     }
 
     private static void least() {
@@ -911,6 +939,13 @@ public final class PromiseTests {
         due("least(1): no way", crane(WALL).least(1), -2);
         due("least(1): it doesn't stand", crane(STUCK).least(1), -2);
         due("least(0): it is there", crane("spot a 0 1;").least(0), 0);
+        x = crane("spot a 3 1;");
+        steps(x, 7);
+        due("least(0): it rolls there", x.least(0), 1);
+        due("least(0): both in one step",
+                crane("width 4;deep 5;top 2;swing 1;start 1 2;block 1 2 3;spot a 0 2;").least(0), 6);
+        due("least(0): only so",
+                crane("width 5;deep 3;top 2;swing 2;start 3 2;block 1 3 2;spot a 1 2;").least(0), 10);
         due("least(0): two for four steps", crane("spot a 3 1;").least(0), 2);
     }
 
@@ -978,6 +1013,24 @@ public final class PromiseTests {
         due("log(0, 2)", x.log(0, 2), 43);
         due("log(39, 0): as it was ahead of that tick", x.log(39, 0), 'N');
         due("count(8)", x.count(8), 40);
+        logOfManyTicks();
+    }
+
+    /** Lower, lift, and so on: a letter tells whether its tick was even. */
+    private static void logOfManyTicks() {
+        SwingCrane x = new SwingCrane();
+        for (int i = 0; i < 75; i++) {
+            steps(x, i % 2 == 0 ? 5 : 3);
+        }
+        for (int undone = 0; undone <= 30; undone++) {
+            for (int k = 0; k < 40; k++) {
+                int tick = 74 - undone - k;
+                due("log(" + k + ", 2)", x.log(k, 2), tick);
+                due("log(" + k + ", 0)", x.log(k, 0), tick % 2 == 0 ? 'N' : 'n');
+                due("log(" + k + ", 1)", x.log(k, 1), tick % 2);
+            }
+            x.undo();
+        }
     }
 
     private static void again() {
@@ -1021,6 +1074,15 @@ public final class PromiseTests {
         due("chance(0, 61, 0)", x.chance(0, 61, 0), -1);
         due("chance(0, 1, 3)", x.chance(0, 1, 3), -1);
         due("chance(0, 1, -1)", x.chance(0, 1, -1), -1);
+        boolean other = false;
+        for (int n = 1; n <= 60; n++) {
+            other = other || x.chance(0, n, 2) != x.chance(-1, n, 2);
+        }
+        due("chance(0, ..) is not that of the seed", other, true);
+        x = crane("width 12;deep 6;start 6 3;");
+        for (int n = 1; n <= 60; n++) {
+            due("chance(-1, " + n + ", 2) without a seed", x.chance(-1, n, 2), x.chance(0, n, 2));
+        }
         due("count(7): nothing has changed", x.count(7), 0);
         dueNow(x, 6, 0, 0, 0, 3);
         x = crane(STUCK);
@@ -1063,6 +1125,13 @@ public final class PromiseTests {
         due("count(7)", x.count(7), 5);
         x.step(9, 9);
         due("a refused step isn't undone", x.undo(), -1);
+        x = crane(HALL);
+        due("fewest(0)", x.fewest(0), 8);
+        steps(x, 7);
+        due("fewest(0)", x.fewest(0), 7);
+        x.undo();
+        due("fewest(0) as before", x.fewest(0), 8);
+        due("by(0, 0) as before", x.by(0, 0), 7);
     }
 
     private static void keep() {
@@ -1093,6 +1162,12 @@ public final class PromiseTests {
         due("undo(): nothing then", x.undo(), -1);
         steps(x, 4);
         due("back(): the image stays", x.back(), 5);
+        steps(x, 5);
+        x.keep();
+        x.undo();
+        steps(x, 4);
+        due("back()", x.back(), 6);
+        due("log(0, 0): that of the image", x.log(0, 0), 'N');
         x = crane("width 8;deep 3;pile 0 2;");
         x.keep();
         x.grab();

@@ -367,7 +367,7 @@ public final class RandomRuns {
             case 7 -> same("stop(" + spot + ")", crane.stop(spot), plain.stop(spot));
             case 8, 9 -> same("carry(" + column + "," + to + ")", crane.carry(column, to), plain.carry(column, to));
             case 10 -> same("jobs", crane.jobs(), plain.jobs());
-            case 11 -> same("job(" + k + ")", crane.job(k), plain.job(k));
+            case 11 -> same("job(" + (k & 3) + ")", crane.job(k & 3), plain.job(k & 3));
             case 12 -> same("ifPile(" + column + "," + spot + ")", crane.ifPile(column, spot),
                     plain.ifPile(column, spot));
             case 13 -> same("reach(" + (k & 3) + ")", crane.reach(k & 3), plain.reach(k & 3));
