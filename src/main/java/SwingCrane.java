@@ -1664,6 +1664,7 @@ public final class SwingCrane {
             version++;
         }
 
+        /** Leaves the rest in goal, from where ways are walked back. */
         private int restNumber(Space inSpace, int column, int depth) {
             goal.hang(column, depth);
             return inSpace.numberOf(goal);
@@ -1793,8 +1794,9 @@ public final class SwingCrane {
 
         private void searchLegs(int one) {
             aside.begin(present, false, EVERY_CODE, MOST_SWING);
-            spotNumber(present, one);
-            aside.seed(goal);
+            if (spotNumber(present, one) >= 0) {
+                aside.seed(goal);
+            }
             for (int other = 0; other < MOST_SPOTS; other++) {
                 int at = MOST_SPOTS * one + other;
                 if (at >= 0 && at < legs.length) {

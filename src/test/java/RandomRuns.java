@@ -404,9 +404,53 @@ public final class RandomRuns {
                 int c = from(-1, 13);
                 same("count(" + c + ")", crane.count(c), plain.count(c));
             }
-            case 18 -> named();
+            case 18 -> {
+                named();
+                extremes();
+            }
             default -> compareNow();
         }
+    }
+
+    /** Arguments far out, one of two or three at times. */
+    private void extremes() {
+        int[] far = {Integer.MIN_VALUE, Integer.MAX_VALUE, -1 << 16, 1 << 16, -3, 64, 255, 0};
+        int x = far[below(8)];
+        int y = below(2) == 0 ? 0 : far[below(8)];
+        same("fault", crane.fault(x), plain.fault(x));
+        same("named", crane.named(x), plain.named(x));
+        same("now", asked(x, false), asked(x, true));
+        same("pile", crane.pile(x), plain.pile(x));
+        same("free", crane.free(x), plain.free(x));
+        same("gap", crane.gap(x, y), plain.gap(x, y));
+        same("wind", crane.wind(x), plain.wind(x));
+        same("why", crane.why(x), plain.why(x));
+        same("sway", crane.sway(x), plain.sway(x));
+        same("fewest", crane.fewest(x), plain.fewest(x));
+        same("by", crane.by(y, x), plain.by(y, x));
+        same("rests", crane.rests(x), plain.rests(x));
+        same("between", crane.between(x, y), plain.between(x, y));
+        same("stop", crane.stop(x), plain.stop(x));
+        same("carry", crane.carry(y, x), plain.carry(y, x));
+        same("job", crane.job(x), plain.job(x));
+        same("ifPile", crane.ifPile(x, y), plain.ifPile(x, y));
+        same("reach", crane.reach(x), plain.reach(x));
+        same("safe", crane.safe(x), plain.safe(x));
+        same("pulses", crane.pulses(x, y, y), plain.pulses(x, y, y));
+        same("pulses", crane.pulses(1, x, y), plain.pulses(1, x, y));
+        same("shortest", crane.shortest(1, x), plain.shortest(1, x));
+        same("level", crane.level(x), plain.level(x));
+        same("ifWind", crane.ifWind(y, x), plain.ifWind(y, x));
+        same("least", crane.least(x), plain.least(x));
+        same("steadiest", crane.steadiest(x), plain.steadiest(x));
+        same("along", crane.along(y, x), plain.along(y, x));
+        same("log", crane.log(x, y), plain.log(x, y));
+        same("chance", crane.chance(x, 5, y), plain.chance(x, 5, y));
+        same("chance", crane.chance(5, x, y), plain.chance(5, x, y));
+        same("count", crane.count(x), plain.count(x));
+        same("flow", crane.flow(x), plain.flow(x));
+        same("step", crane.step(x, y), plain.step(x, y));
+        same("text", crane.text(x), plain.text(x));
     }
 
     private void pulses() {
