@@ -1,7 +1,5 @@
-import java.util.NoSuchElementException;
-
 /** For each promise of the document the ordinary answers, the edges that it names, and wrong inputs. */
-public final class PromiseTests {
+public final class PromiseTests extends Due {
     /** Rests at 1..4 deep; blocks over columns 3 and 4; winds at ticks 2 and 5. */
     private static final String HALL = "width 8;deep 4;top 2;swing 3;spot far 7 1;spot near 2 3;spot low 5 4;"
             + "block 3 4 2;start 0 1;wind 2 1;wind 5 -2;do east 2;do lower 1;do still 5;do lift 1;";
@@ -11,75 +9,6 @@ public final class PromiseTests {
     private static final String WALL = "width 6;deep 2;top 1;swing 1;block 2 3 0;spot a 1 1;spot b 5 1;spot c 2 1;";
     /** It hangs in a block at first: depth 2, where only 1 is free. */
     private static final String STUCK = "width 4;deep 2;top 1;swing 1;block 0 0 1;start 0 2;spot a 0 2;spot b 0 1;";
-
-    private static int wrong;
-    private static int promise;
-
-    private static void due(String call, long got, long want) {
-        if (got != want) {
-            wrong++;
-            System.out.println("promise " + promise + ": " + call + " answered " + got + ", due is " + want);
-        }
-    }
-
-    private static void due(String call, boolean got, boolean want) {
-        due(call, got ? 1 : 0, want ? 1 : 0);
-    }
-
-    private static int feedAll(SwingCrane x, String text) {
-        int has = x.count(10);
-        for (int i = 0; i < text.length(); i += 20) {
-            int[] five = new int[5];
-            for (int k = 0; k < 20; k++) {
-                int sign = i + k < text.length() ? text.charAt(i + k) & 255 : 32;
-                five[k / 4] = five[k / 4] << 8 | sign;
-            }
-            has = x.feed(five[0], five[1], five[2], five[3], five[4]);
-        }
-        return has;
-    }
-
-    private static int tell(SwingCrane x, String text) {
-        feedAll(x, text);
-        return x.text(text.length());
-    }
-
-    private static SwingCrane crane(String text) {
-        SwingCrane x = new SwingCrane();
-        int lines = (int) text.chars().filter(sign -> sign == ';').count();
-        due("text of '" + text + "'", tell(x, text), lines);
-        return x;
-    }
-
-    private static int letters(String name) {
-        int packed = 0;
-        for (int i = 0; i < 6; i++) {
-            packed = packed << 5 | (i < name.length() ? name.charAt(i) - 'a' + 1 : 0);
-        }
-        return packed;
-    }
-
-    private static void dueNow(SwingCrane x, int column, int speed, int sway, int last, int depth) {
-        due("now(0)", x.now(0), column);
-        due("now(1)", x.now(1), speed);
-        due("now(2)", x.now(2), sway);
-        due("now(3)", x.now(3), last);
-        due("now(4)", x.now(4), depth);
-    }
-
-    private static void dueFault(String text, int kind, int place) {
-        SwingCrane x = new SwingCrane();
-        due("text of '" + text + "'", tell(x, text), -1);
-        due("fault(0) of '" + text + "'", x.fault(0), kind);
-        due("fault(1) of '" + text + "'", x.fault(1), place);
-    }
-
-    private static void steps(SwingCrane x, int... codes) {
-        for (int code : codes) {
-            int tick = x.count(7);
-            due("step by code " + code, x.step(code / 3 - 1, code % 3 - 1), tick + 1);
-        }
-    }
 
     private static void newObject() {
         SwingCrane x = new SwingCrane();
@@ -318,17 +247,6 @@ public final class PromiseTests {
         due("flow(40)", x.flow(40), 40);
         due("flow(40)", x.flow(40), 20);
         dueNow(x, 0, 0, 0, 0, 1);
-    }
-
-    private static int thrown(SwingCrane x, int what) {
-        try {
-            x.now(what);
-            return 0;
-        } catch (IndexOutOfBoundsException e) {
-            return 1;
-        } catch (NoSuchElementException e) {
-            return 2;
-        }
     }
 
     private static void now() {
