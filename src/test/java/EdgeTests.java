@@ -8,6 +8,7 @@ public final class EdgeTests extends Edges {
         StepEdges.run();
         WayEdges.run();
         PastEdges.run();
+        AskEdges.run();
         int without = promiseWithout();
         if (without > 0) {
             wrong++;

@@ -212,6 +212,24 @@ final class PastEdges extends Edges {
         at("count(7)", x.count(7), 0);
     }
 
+    /** NOW sways by the wind of the first tick; what comes by chance behind it is asked for alone. */
+    private static void chanceBehindWind(String text) {
+        SwingCrane x = crane(text);
+        steps(x, NOTHING);
+        PlainCrane plain = PlainAnswers.behindStep(text);
+        boolean less = false;
+        for (int seed = 0; seed < 12; seed++) {
+            for (int n = 1; n <= 4; n++) {
+                int greatest = x.chance(seed, n, 2);
+                at("chance(" + seed + ", " + n + ", 2) behind '" + text + "'", greatest, plain.chance(seed, n, 2));
+                at("chance(" + seed + ", " + n + ", 0) behind '" + text + "'", x.chance(seed, n, 0),
+                        plain.chance(seed, n, 0));
+                less |= greatest < Math.abs(x.now(2));
+            }
+        }
+        at("one is less than NOW's", less, true);
+    }
+
     /** At the west end a wind of -1 blows the load out, so that the first draw tells what happens. */
     private static void chanceEnds() {
         sentence(43, "with a WIND of a DRAW modulo 3 less 1; if the STEP can't be so, it ends");
@@ -237,12 +255,21 @@ final class PastEdges extends Edges {
         at("now(2)", sways.now(2), 2);
         steps(sways, NOTHING);
         at("now(2)", sways.now(2), -2);
+        chanceBehindWind("start 8 3;wind 0 4;");
+        chanceBehindWind("start 8 3;wind 0 -3;");
+        chanceBehindWind("start 8 1;wind 0 2;");
+        chanceBehindWind("swing 2;start 8 5;wind 0 2;");
         SwingCrane out = crane("width 4;top 1;start 2 1;");
         steps(out, 7);
         at("halt()", out.halt(), -2);
         at("chance(0, 60, 0): it rolls out", out.chance(0, 60, 0), 0);
         at("chance(0, 60, 1)", out.chance(0, 60, 1), 0);
         at("chance(0, 60, 2)", out.chance(0, 60, 2), 1);
+        SwingCrane fast = crane("width 4;top 2;start 0 1;");
+        steps(fast, 7, 7);
+        dueNow(fast, 3, 2, 0, -1, 1);
+        at("chance(0, 60, 0): it rolls out", fast.chance(0, 60, 0), 0);
+        at("chance(0, 60, 2): NOW's SWAY", fast.chance(0, 60, 2), 0);
         sentence(43, "in place of that told");
         SwingCrane told = crane("start 8 3;wind 0 4;wind 1 4;");
         SwingCrane calm = crane("start 8 3;");

@@ -3,7 +3,7 @@ final class PlainAnswers {
     private PlainAnswers() {
     }
 
-    private static PlainCrane crane(String text) {
+    static PlainCrane crane(String text) {
         PlainCrane plain = new PlainCrane();
         for (int i = 0; i < text.length(); i += 20) {
             int[] five = new int[5];
@@ -28,10 +28,19 @@ final class PlainAnswers {
         return crane(text).level(spot);
     }
 
-    static int steadiestBehindStep(String text, int spot) {
+    static int job(String text, int i) {
+        return crane(text).job(i);
+    }
+
+    /** The crane behind a step of nothing, which a wind may push. */
+    static PlainCrane behindStep(String text) {
         PlainCrane plain = crane(text);
         plain.step(0, 0);
-        return plain.steadiest(spot);
+        return plain;
+    }
+
+    static int steadiestBehindStep(String text, int spot) {
+        return behindStep(text).steadiest(spot);
     }
 
     static int pulses(int depth, int n, int d) {

@@ -463,6 +463,15 @@ final class StepEdges extends Edges {
             at("free(" + column + ")", x.free(column), free[column]);
         }
         at("free(0) without", crane("deep 2;").free(0), 2);
+        String[] orders = {"block 4 5 2;block 8 8 1;block 3 9 4;", "block 3 9 4;block 8 8 1;block 4 5 2;",
+            "block 8 8 1;block 3 9 4;block 4 5 2;"};
+        int[] least = {6, 6, 6, 4, 2, 2, 4, 4, 1, 4, 6};
+        for (String blocks : orders) {
+            SwingCrane y = crane(blocks);
+            for (int column = 0; column < least.length; column++) {
+                at("free(" + column + ") of '" + blocks + "'", y.free(column), least[column]);
+            }
+        }
         sentence(13, "another one (or the same), and all between");
         at("gap(4, 4)", x.gap(4, 4), 2);
         inside("gap(3, 3)", x.gap(3, 3), 4);
@@ -518,12 +527,42 @@ final class StepEdges extends Edges {
         at("why(7): the load over its own column", out.why(7), 0);
         steps(out, 7);
         at("why(1): 5 and 6", out.why(1), 5);
+        SwingCrane east = crane("width 6;start 4 3;");
+        steps(east, 7);
+        dueNow(east, 5, 1, -1, 0, 3);
+        at("why(1): 5, the load in the COLUMN behind the last one", east.why(1), 5);
+        SwingCrane last = crane("start 14 3;");
+        steps(last, 7);
+        at("why(1): 5, the load in COLUMN 16", last.why(1), 5);
+        SwingCrane inside = crane("width 6;start 3 3;");
+        steps(inside, 7);
+        inside("why(1): the load in the last COLUMN", inside.why(1), 0);
+        SwingCrane west = crane("width 6;start 1 3;");
+        steps(west, 1);
+        dueNow(west, 0, -1, 1, 0, 3);
+        at("why(7): 5, the load in COLUMN -1", west.why(7), 5);
+        SwingCrane first = crane("width 6;start 2 3;");
+        steps(first, 1);
+        inside("why(7): the load in COLUMN 0", first.why(7), 0);
         SwingCrane block = crane("swing 1;start 8 1;block 7 7 0;block 10 10 0;");
         steps(block, 7);
         at("why(1): 4 and 6", block.why(1), 4);
         SwingCrane clear = crane("start 8 1;block 11 11 0;");
         steps(clear, 7);
         at("why(1): 6", clear.why(1), 6);
+        sentence(15, "3: DEPTH is 1 .. deep");
+        for (int deep = 2; deep <= 6; deep++) {
+            SwingCrane low = crane("deep " + deep + ";start 8 " + deep + ";");
+            SwingCrane high = crane("deep " + deep + ";start 8 1;");
+            for (int push = 0; push < 3; push++) {
+                beyond("why of DEPTH " + (deep + 1), low.why(3 * push + 2), 3);
+                at("why of DEPTH " + deep, low.why(3 * push + 1), 0);
+                inside("why of DEPTH " + (deep - 1), low.why(3 * push), 0);
+                beyond("why of DEPTH 0", high.why(3 * push), 3);
+                at("why of DEPTH 1", high.why(3 * push + 1), 0);
+                inside("why of DEPTH 2", high.why(3 * push + 2), 0);
+            }
+        }
         sentence(15, "from NOW, that may not STAND");
         SwingCrane stuck = crane("block 8 8 1;start 8 2;");
         at("why(4)", stuck.why(4), 6);

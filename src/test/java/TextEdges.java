@@ -98,6 +98,11 @@ final class TextEdges extends Edges {
         sentence(3, "wind: -4 .. 4");
         range("wind 8 ", 0, 4, ";", (x, n) -> x.wind(8));
         range("wind 8 -", 0, 4, ";", 7);
+        String[] noSigns = {"+", ".", "/", "_", "=", "~", ",", "!"};
+        for (String sign : noSigns) {
+            faulty("wind 8 " + sign + "1;", 1, 7);
+        }
+        faulty("wind 8 1;1;", 1, 9);
         at("wind(8) of -0", told("wind 8 -0;").wind(8), 0);
         at("wind(8) of -004", told("wind 8-004;").wind(8), -4);
     }
@@ -428,6 +433,18 @@ final class TextEdges extends Edges {
         inside("text(8)", x.text(8), 1);
         at("count(1): the second LINE is gone", x.count(1), 6);
         at("count(10)", x.count(10), 0);
+        cutOff("wind 0 -4;", 8, 1, 7);
+        cutOff("wind 0 -4;", 9, 1, 9);
+        cutOff("wind 0 -44;", 9, 1, 9);
+        cutOff("width 44;", 7, 1, 7);
+        cutOff("width 16;", 7, 2, 6);
+        cutOff("width 4;", 4, 1, 0);
+        cutOff("width 4;", 5, 1, 5);
+        cutOff("spot abcdefg 1 1;", 11, 1, 11);
+        cutOff("spot abcdefg 1 1;", 12, 1, 5);
+        cutOff("deep 3;x", 8, 1, 7);
+        feedAll(x, "deep 3;x");
+        at("text(7)", x.text(7), 1);
         feedAll(x, "width 4;deep 3;");
         at("text(0)", x.text(0), 0);
         at("count(10)", x.count(10), 0);
@@ -444,6 +461,15 @@ final class TextEdges extends Edges {
         at("named(a)", y.named(letters("a")), 0);
         at("chance by its own seed", y.chance(-1, 9, 2), y.chance(5, 9, 2));
         at("back()", y.back(), 3);
+    }
+
+    /** The first bytes of a tape that goes on. */
+    private static void cutOff(String tape, int n, int kind, int place) {
+        SwingCrane x = new SwingCrane();
+        feedAll(x, tape);
+        at("text(" + n + ") of '" + tape + "'", x.text(n), -1);
+        at("fault(0)", x.fault(0), kind);
+        at("fault(1)", x.fault(1), place);
     }
 
     private static void textBeginsAnew() {
@@ -466,6 +492,38 @@ final class TextEdges extends Edges {
         at("job(1): gone", y.job(1), -1);
         at("flow(40)", y.flow(40), 1);
         at("free(2)", y.free(2), 5);
+        nothingIsLeft();
+    }
+
+    /** Of a text in which all is told as often as can be, behind one in which little is and one without LINES. */
+    private static void nothingIsLeft() {
+        String much = "seed 7;width 12;deep 5;top 1;swing 2;start 4 3;" + many("block # # 3;", 6)
+                + many("spot @ # 1;", 6) + many("wind # 2;", 8) + many("do lower 1;", 16) + many("pile # 2;", 8)
+                + many("job # 9;", 3);
+        String little = "block 11 11 4;spot z 9 1;wind 900 1;do wait 1;pile 10 1;job 10 9;";
+        String[] texts = {little, ""};
+        for (String text : texts) {
+            SwingCrane x = crane(much);
+            SwingCrane anew = new SwingCrane();
+            at("text", tell(x, text), linesOf(text));
+            tell(anew, text);
+            at("what can be seen", look(x).equals(look(anew)), true);
+            for (int tick = 0; tick < 8; tick++) {
+                at("wind(" + tick + ")", x.wind(tick), 0);
+            }
+            for (int spot = 0; spot < 6; spot++) {
+                at("named", x.named(letters(String.valueOf((char) ('a' + spot)))), -1);
+                at("fewest(" + spot + ")", x.fewest(spot), anew.fewest(spot));
+                at("job(" + spot + ")", x.job(spot), anew.job(spot));
+            }
+            for (int n = 1; n <= 60; n++) {
+                at("chance(-1, " + n + ", 2): seed 0", x.chance(-1, n, 2), anew.chance(0, n, 2));
+            }
+            at("chance(-1, 1, 0): seed 0", x.chance(-1, 1, 0), 0);
+            beyond("chance(7, 1, 0): that seed would go on", x.chance(7, 1, 0), 1);
+            at("flow(40)", x.flow(40), linesOf(text) > 0 ? 1 : 0);
+            at("flow(40)", x.flow(40), 0);
+        }
     }
 
     private static void fault() {

@@ -93,6 +93,13 @@ final class WayEdges extends Edges {
         inside("fewest(0)", x.fewest(0), 1);
         inside("fewest(2)", x.fewest(2), 2);
         beyond("fewest(3)", x.fewest(3), -2);
+        sentence(19, "each of which CAN BE: by no SWAY beyond swing");
+        String[] tight = {"width 5;deep 5;top 2;swing 1;block 2 4 3;block 3 3 3;start 2 2;spot a 1 5;",
+            "width 7;deep 5;top 2;swing 1;block 2 3 0;start 4 4;spot a 0 1;",
+            "width 9;deep 6;top 2;swing 2;block 3 4 2;start 6 5;spot a 1 5;"};
+        for (String text : tight) {
+            at("fewest(0) of '" + text + "'", crane(text).fewest(0), PlainAnswers.fewest(text, 0));
+        }
         sentence(20, "-2: there are not so many, no WAY");
         at("by(2, 0)", x.by(2, 0), 5);
         at("by(2, 1)", x.by(2, 1), 5);
@@ -126,6 +133,14 @@ final class WayEdges extends Edges {
         inside("halt()", x.halt(), 1);
         steps(x, 1);
         at("halt()", x.halt(), 0);
+        for (int column = 0; column < 16; column++) {
+            for (int depth = 1; depth <= 6; depth++) {
+                SwingCrane rest = crane("start " + column + " " + depth + ";");
+                at("halt() at " + column + ", " + depth, rest.halt(), 0);
+                at("rests(0) at " + column + ", " + depth, rest.rests(0), column);
+                at("rests(1) at " + column + ", " + depth, rest.rests(1), depth);
+            }
+        }
         sentence(21, "-2: there is no WAY");
         beyond("halt()", doomed().halt(), -2);
         beyond("halt(): STILL, but it doesn't STAND", crane(STUCK).halt(), -2);
@@ -280,9 +295,28 @@ final class WayEdges extends Edges {
         for (int i : none) {
             beyond("job(" + i + ")", three.job(i), -1);
         }
+        jobsOneBehindAnother();
         SwingCrane turned = crane(LOT + "pile 0 1;job 3 0;job 0 3;");
         at("job(0)", turned.job(0), 1);
         at("job(1)", turned.job(1), 0);
+    }
+
+    private static void jobsOneBehindAnother() {
+        sentence(27, "each from where the one ahead ended, by PILES as they are then");
+        String[] texts = {"width 8;deep 4;top 2;swing 1;pile 7 3;pile 1 3;job 1 3;job 7 1;",
+            "width 5;deep 4;top 1;swing 3;pile 0 3;job 0 4;job 0 4;job 0 2;",
+            "width 7;deep 5;top 1;swing 1;pile 4 4;job 4 5;job 4 0;",
+            "width 7;deep 5;top 2;swing 1;pile 6 4;pile 5 3;pile 3 3;job 5 4;job 6 4;job 6 0;",
+            "width 4;deep 5;top 1;swing 2;pile 3 3;pile 0 3;job 0 2;job 0 1;job 3 1;",
+            "width 5;deep 4;top 2;swing 2;pile 1 3;job 1 2;job 1 3;job 1 0;"};
+        int[] steps = {30, 31, 29, 32, 27, 36};
+        for (int i = 0; i < texts.length; i++) {
+            SwingCrane x = crane(texts[i]);
+            at("jobs() of '" + texts[i] + "'", x.jobs(), steps[i]);
+            for (int k = 0; k < 3; k++) {
+                at("job(" + k + ") of '" + texts[i] + "'", x.job(k), PlainAnswers.job(texts[i], k));
+            }
+        }
     }
 
     private static void ifPile() {
@@ -383,6 +417,17 @@ final class WayEdges extends Edges {
         beyond("level(0): lowered at the end", crane(LOT + "spot a 3 2;").level(0), -2);
         beyond("level(1): it doesn't STAND", crane(STUCK).level(0), -2);
         beyond("level(0): no WAY", doomed().level(0), -2);
+        for (int depth = 1; depth <= 6; depth++) {
+            for (int column = 4; column <= 12; column += 4) {
+                String text = "start 8 3;spot a " + column + " " + depth + ";";
+                at("level(0) of '" + text + "'", crane(text).level(0), PlainAnswers.level(text, 0));
+                at("level(0) of '" + text + "': at its DEPTH alone", crane(text).level(0) >= 0, depth == 3);
+            }
+        }
+        SwingCrane longer = crane("start 8 3;wind 0 1;spot a 8 3;");
+        steps(longer, 4);
+        at("fewest(0): by a HOIST", longer.fewest(0), PlainAnswers.behindStep("start 8 3;wind 0 1;spot a 8 3;").fewest(0));
+        at("level(0): without", longer.level(0), PlainAnswers.behindStep("start 8 3;wind 0 1;spot a 8 3;").level(0));
         sentence(36, "w -8 .. 8; NONE: no such ones");
         SwingCrane wind = crane("start 8 3;wind 0 4;spot a 8 3;");
         steps(wind, 4);
@@ -456,6 +501,27 @@ final class WayEdges extends Edges {
         steps(sways, 4);
         at("now(2)", sways.now(2), 4);
         at("steadiest(0): what it sways NOW isn't asked for", sways.steadiest(0), 2);
+        SwingCrane other = crane("start 8 3;wind 0 -4;spot a 8 3;");
+        steps(other, 4);
+        at("now(2)", other.now(2), -4);
+        at("steadiest(0): without sign", other.steadiest(0), 2);
+    }
+
+    /** The ways to the west and to the east; NOW sways already, if a wind has pushed it. */
+    private static void alongBoth(String text, boolean swaying) {
+        String all = text + "spot a 4 3;spot b 6 2;spot c 8 3;spot d 10 2;spot e 12 3;spot f 15 1;";
+        SwingCrane x = crane(all);
+        PlainCrane plain = PlainAnswers.crane(all);
+        if (swaying) {
+            steps(x, 4);
+            plain = PlainAnswers.behindStep(all);
+        }
+        for (int spot = 0; spot < 6; spot++) {
+            for (int what = 0; what <= 4; what++) {
+                at("along(" + spot + ", " + what + ") of '" + text + "'", x.along(spot, what),
+                        plain.along(spot, what));
+            }
+        }
     }
 
     private static void along() {
@@ -478,6 +544,13 @@ final class WayEdges extends Edges {
             beyond("along(1, " + what + "): it doesn't STAND", crane(STUCK).along(1, what), -2);
             beyond("along(0, " + what + ")", doomed().along(0, what), -2);
         }
+        sentence(40, "without sign");
+        alongBoth("start 8 3;", false);
+        alongBoth("deep 5;swing 2;start 8 5;", false);
+        sentence(40, "behind each STEP, not NOW's");
+        alongBoth("start 8 3;wind 0 4;", true);
+        alongBoth("start 8 3;wind 0 -4;", true);
+        alongBoth("start 8 1;wind 0 -2;", true);
         sentence(40, "behind each STEP, not ahead of the first");
         SwingCrane rolls = crane("width 4;deep 3;top 1;swing 1;start 0 3;spot a 0 2;spot b 0 1;");
         at("along(0, 4): not NOW's 0", rolls.along(0, 4), 1);
