@@ -6,11 +6,11 @@ final class AskEdges extends Edges {
     private static final String YARD = "width 7;deep 4;top 2;swing 2;block 2 2 3;start 0 2;spot a 5 1;spot b 6 2;"
             + "spot c 0 1;pile 0 2;pile 6 1;job 0 3;job 6 4;job 0 4;wind 6 1;do lift 1;do still 2;do east 1;do still 8;"
             + "seed 5;";
-    private static final String OTHER = "width 5;deep 3;top 1;swing 1;spot a 4 2;spot b 0 3;spot c 3 1;pile 4 1;job 4 0;"
-            + "job 0 4;do wait 2;";
+    private static final String OTHER = "width 5;deep 3;top 1;swing 1;spot a 4 2;spot b 0 3;spot c 3 1;pile 4 1;"
+            + "job 4 0;job 0 4;do wait 2;";
     /** The promise of each question. */
-    private static final int[] PROMISE = {19, 20, 21, 22, 22, 23, 24, 25, 26, 27, 28, 29, 30, 30, 30, 31, 31, 32, 35, 36,
-        37, 38, 39, 40, 40, 40, 40, 40, 43, 43, 8, 12, 13, 15, 16, 17, 18};
+    private static final int[] PROMISE = {19, 20, 21, 22, 22, 23, 24, 25, 26, 27, 28, 29, 30, 30, 30, 31, 31, 32, 35,
+        36, 37, 38, 39, 40, 40, 40, 40, 40, 43, 43, 8, 12, 13, 15, 16, 17, 18};
     private static final int SPOTS = 3;
     private static final int MOMENTS = 13;
 

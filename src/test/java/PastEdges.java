@@ -114,7 +114,7 @@ final class PastEdges extends Edges {
             beyond("log(0, " + what + ")", x.log(0, what), -1);
             beyond("log(39, " + what + ")", x.log(39, what), -1);
         }
-        sentence(41, "e by a PUSH east, w west, n none, as a capital where the load was lowered; whether it was lifted");
+        sentence(41, "e by a PUSH east, w west, n none, as a capital where it was lowered; whether it was lifted");
         String letters = "wwWnnNeeE";
         for (int code = 0; code < 9; code++) {
             SwingCrane y = crane("start 8 3;");
@@ -368,7 +368,8 @@ final class PastEdges extends Edges {
         at("count(9)", x.count(9), 0);
         stays(x, "undo()", x::undo, -1);
         sentence(46, "All is as in the IMAGE; it stays");
-        at("what can be seen, but what can be undone", look(x).equals(kept.replace(" 1 1 2 0 0 2 ", " 1 1 0 0 0 2 ")), true);
+        String nothingToUndo = kept.replace(" 1 1 2 0 0 2 ", " 1 1 0 0 0 2 ");
+        at("what can be seen, but what can be undone", look(x).equals(nothingToUndo), true);
         steps(x, NOTHING);
         at("undo()", x.undo(), 0);
         at("back() again", x.back(), 1);

@@ -487,8 +487,8 @@ final class StepEdges extends Edges {
     private static void wind() {
         sentence(14, "The WIND told for a TICK (0: none is); 0 below 0, too");
         SwingCrane x = crane("wind 0 4;wind 5 -4;wind 6 0;wind 7 1;wind 999 -1;");
-        int[][] want = {{-1, 0}, {0, 4}, {1, 0}, {4, 0}, {5, -4}, {6, 0}, {7, 1}, {8, 0}, {998, 0}, {999, -1}, {1000, 0},
-            {-5, 0}, {FAR[0], 0}, {FAR[1], 0}};
+        int[][] want = {{-1, 0}, {0, 4}, {1, 0}, {4, 0}, {5, -4}, {6, 0}, {7, 1}, {8, 0}, {998, 0}, {999, -1},
+            {1000, 0}, {-5, 0}, {FAR[0], 0}, {FAR[1], 0}};
         for (int[] pair : want) {
             at("wind(" + pair[0] + ")", x.wind(pair[0]), pair[1]);
         }

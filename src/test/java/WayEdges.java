@@ -424,10 +424,11 @@ final class WayEdges extends Edges {
                 at("level(0) of '" + text + "': at its DEPTH alone", crane(text).level(0) >= 0, depth == 3);
             }
         }
-        SwingCrane longer = crane("start 8 3;wind 0 1;spot a 8 3;");
+        String swaying = "start 8 3;wind 0 1;spot a 8 3;";
+        SwingCrane longer = crane(swaying);
         steps(longer, 4);
-        at("fewest(0): by a HOIST", longer.fewest(0), PlainAnswers.behindStep("start 8 3;wind 0 1;spot a 8 3;").fewest(0));
-        at("level(0): without", longer.level(0), PlainAnswers.behindStep("start 8 3;wind 0 1;spot a 8 3;").level(0));
+        at("fewest(0): by HOISTS", longer.fewest(0), PlainAnswers.behindStep(swaying).fewest(0));
+        at("level(0): without", longer.level(0), PlainAnswers.behindStep(swaying).level(0));
         sentence(36, "w -8 .. 8; NONE: no such ones");
         SwingCrane wind = crane("start 8 3;wind 0 4;spot a 8 3;");
         steps(wind, 4);
