@@ -270,6 +270,14 @@ final class PastEdges extends Edges {
         dueNow(fast, 3, 2, 0, -1, 1);
         at("chance(0, 60, 0): it rolls out", fast.chance(0, 60, 0), 0);
         at("chance(0, 60, 2): NOW's SWAY", fast.chance(0, 60, 2), 0);
+        sentence(43, "from NOW on, that may not STAND");
+        SwingCrane stuck = crane("block 8 8 0;start 8 1;");
+        for (int seed = 0; seed < 20; seed++) {
+            int wind = draw(seed);
+            at("chance(" + seed + ", 1, 0): blown free", stuck.chance(seed, 1, 0), wind == 0 ? 0 : 1);
+            at("chance(" + seed + ", 1, 1)", stuck.chance(seed, 1, 1), wind == 0 ? 1 : 0);
+            at("chance(" + seed + ", 1, 2)", stuck.chance(seed, 1, 2), Math.abs(wind));
+        }
         sentence(43, "in place of that told");
         SwingCrane told = crane("start 8 3;wind 0 4;wind 1 4;");
         SwingCrane calm = crane("start 8 3;");

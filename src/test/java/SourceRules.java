@@ -14,6 +14,9 @@ public final class SourceRules {
     private static final Pattern METHOD =
             Pattern.compile("^ +((?:public |private |static )*)(?:[\\w\\[\\]]+ )?(\\w+)\\(([^)]*)\\)[^;=]*\\{$");
     private static final Pattern FIELD = Pattern.compile("^ +(?:private |final )*[\\w\\[\\]]+ \\w+;$");
+    /** A call of what belongs to a class; the class's own ones are called without its name. */
+    private static final Pattern LIBRARY = Pattern.compile("\\b[A-Z]\\w*[a-z]\\w*\\.\\w+\\(");
+    private static final Set<String> ALLOWED = Set.of("Math.abs(", "Math.max(", "Math.min(");
     private static final String[] FORBIDDEN = {"->", "::", "finally", "synchronized", "assert ", "Exact(", "catch",
         "instanceof", "System.", "Random", "Thread", "protected", "HashMap", "double", "float", "\" +", "+ \"",
         ".hashCode(", ".toString(", "extends", "implements", "@", "static {"};
@@ -41,6 +44,12 @@ public final class SourceRules {
             for (String word : FORBIDDEN) {
                 if (line.contains(word)) {
                     wrong(i + 1, "has " + word);
+                }
+            }
+            Matcher library = LIBRARY.matcher(line);
+            while (library.find()) {
+                if (!ALLOWED.contains(library.group())) {
+                    wrong(i + 1, "calls " + library.group());
                 }
             }
             if (line.startsWith("import") && !line.equals("import java.util.NoSuchElementException;")) {

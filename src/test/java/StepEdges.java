@@ -304,6 +304,26 @@ final class StepEdges extends Edges {
         at("now(6)", first.now(6), 1);
         at("flow(1)", first.flow(1), 1);
         dueNow(first, 11, 0, 0, 0, 1);
+        stillInTheWind();
+    }
+
+    /** The STEP is that of a crane without the WIND; the WIND pushes it all the same. */
+    private static void stillInTheWind() {
+        sentence(7, "still: the STEP by which STILL is nearest without WIND");
+        for (int depth = 1; depth <= 6; depth++) {
+            for (int wind = -2; wind <= 2; wind++) {
+                String text = "start 8 " + depth + ";do east 1;do still 1;";
+                SwingCrane calm = crane(text);
+                SwingCrane blown = crane(text + "wind 1 " + wind + ";");
+                int can = calm.flow(2);
+                at("flow(2) from " + depth + " without WIND", can, 2);
+                at("flow(2) from " + depth + " with a WIND of " + wind, blown.flow(2), 2);
+                at("log(0, 0): by the same PUSH", blown.log(0, 0), calm.log(0, 0));
+                at("log(0, 1): by the same HOIST", blown.log(0, 1), calm.log(0, 1));
+                at("now(4)", blown.now(4), calm.now(4));
+                at("now(2): the WIND pushes", blown.now(2), calm.now(2) + wind);
+            }
+        }
     }
 
     private static void now() {

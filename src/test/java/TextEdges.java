@@ -378,6 +378,36 @@ final class TextEdges extends Edges {
         at("fault(0)", x.fault(0), 0);
         at("fault(1)", x.fault(1), -1);
         beyond("text(1)", x.text(1), -2);
+        twoObjects();
+    }
+
+    /** What one is told and does is nothing to another one, made ahead of it or behind. */
+    private static void twoObjects() {
+        sentence(1, "All as it is without LINES, whatever other objects do");
+        SwingCrane first = new SwingCrane();
+        String anew = look(first);
+        SwingCrane busy = busy();
+        feedAll(busy, "width 5;");
+        busy.fewest(0);
+        String told = look(busy);
+        SwingCrane second = new SwingCrane();
+        at("the first", look(first).equals(anew), true);
+        at("the second", look(second).equals(anew), true);
+        at("fewest(0) of the first", first.fewest(0), -1);
+        at("named(a) of the second", second.named(letters("a")), -1);
+        beyond("back() of the second", second.back(), -1);
+        beyond("text(1) of the second", second.text(1), -2);
+        int fewest = busy.fewest(0);
+        tell(first, "width 4;deep 2;spot b 3 1;pile 2 1;do east 2;seed 8;");
+        first.keep();
+        first.flow(1);
+        first.fewest(0);
+        tell(second, "x");
+        at("the told one", look(busy).equals(told), true);
+        at("fewest(0) of the told one", busy.fewest(0), fewest);
+        at("named(b) of the told one", busy.named(letters("b")), -1);
+        at("undo() of the told one", busy.undo(), 5);
+        at("back() of the told one", busy.back(), 3);
     }
 
     private static void feed() {

@@ -255,6 +255,23 @@ final class WayEdges extends Edges {
         beyond("carry(0, 4): NONE goes ahead of -3", x.carry(0, 4), -1);
         at("drop()", x.drop(), true);
         at("carry(0, 3)", x.carry(0, 3), 4);
+        carryWhileItMoves();
+    }
+
+    /** STEPS to the BOX are those from NOW, the others those of a crane that hangs there. */
+    private static void carryWhileItMoves() {
+        String text = "width 9;deep 4;swing 3;pile 5 2;job 5 2;spot box 5 2;";
+        int behind = crane(text + "start 5 2;").carry(5, 2);
+        int[][] rows = {{}, {7}, {7, 4}, {7, 8}, {7, 7}, {8, 4, 1}};
+        for (int[] codes : rows) {
+            SwingCrane x = crane(text);
+            steps(x, codes);
+            sentence(26, "FEWEST STEPS (from NOW) to STILL there, then, holding, to STILL at the other one");
+            at("carry(5, 2) in column " + x.now(0), x.carry(5, 2), x.fewest(0) + behind);
+            sentence(27, "FEWEST STEPS (from NOW), of one job those of its CARRY");
+            at("jobs() in column " + x.now(0), x.jobs(), x.fewest(0) + behind);
+        }
+        at("carry(5, 2)", crane(text).carry(5, 2), PlainAnswers.carry(text, 5, 2));
     }
 
     private static void jobs() {
@@ -397,6 +414,10 @@ final class WayEdges extends Edges {
         beyond("bears(): no WAY behind it", doomed().bears(), -2);
         beyond("bears(): it doesn't STAND", crane(STUCK).bears(), -2);
         beyond("bears(): a WIND alone could free it", crane("block 8 8 0;start 8 1;").bears(), -2);
+        sentence(32, "with each WIND, not with that told");
+        for (int wind = -4; wind <= 4; wind++) {
+            at("bears() in a WIND of " + wind, crane("start 8 3;wind 0 " + wind + ";").bears(), 4);
+        }
     }
 
     /** By nothing it rolls out. */
@@ -456,6 +477,26 @@ final class WayEdges extends Edges {
         at("ifWind(0, 0): that STEP not among them", x.ifWind(0, 0), 1);
         beyond("ifWind(0, -1): the load is out", x.ifWind(0, -1), -2);
         beyond("ifWind(3, 9): NONE goes ahead of -2", x.ifWind(3, 9), -1);
+        ifWindInAnother();
+    }
+
+    private static void ifWindInAnother() {
+        sentence(36, "with a WIND w, not with that told");
+        SwingCrane calm = crane("start 8 3;spot a 8 3;");
+        for (int wind = -4; wind <= 4; wind++) {
+            SwingCrane x = crane("start 8 3;spot a 8 3;wind 0 " + wind + ";");
+            for (int w = -8; w <= 8; w++) {
+                at("ifWind(0, " + w + ") in a WIND of " + wind, x.ifWind(0, w), calm.ifWind(0, w));
+            }
+        }
+        sentence(36, "-2: it can't be so; if it can, NOW need not STAND");
+        String text = "block 8 8 0;start 8 1;spot a 11 1;";
+        SwingCrane free = crane(text);
+        at("now(7)", free.now(7), 6);
+        at("fewest(0): NOW doesn't STAND", free.fewest(0), -2);
+        at("ifWind(0, 0): nothing changes", free.ifWind(0, 0), -2);
+        at("ifWind(0, 1)", free.ifWind(0, 1), PlainAnswers.crane(text).ifWind(0, 1));
+        at("ifWind(0, 1): blown free", free.ifWind(0, 1) > 0, true);
     }
 
     private static void nearestAndLeast() {
@@ -464,6 +505,9 @@ final class WayEdges extends Edges {
         at("nearest(): the last alone", crane(LOT + "block 2 2 0;spot a 2 1;spot b 2 2;spot c 0 2;").nearest(), 2);
         at("nearest(): it is there", crane("spot a 0 2;spot b 0 1;spot c 0 1;").nearest(), 1);
         beyond("nearest() without", new SwingCrane().nearest(), -2);
+        SwingCrane hoists = crane("spot a 3 1;spot b 0 4;");
+        at("least(0) is less", hoists.least(0) < hoists.least(1), true);
+        at("nearest(): by FEWEST STEPS", hoists.nearest(), 1);
         beyond("nearest(): it doesn't STAND", crane(STUCK).nearest(), -2);
         beyond("nearest(): no WAY", doomed().nearest(), -2);
         SwingCrane x = crane(SHAFT);
@@ -563,9 +607,70 @@ final class WayEdges extends Edges {
         at("along(0, 1): not NOW's 1", stops.along(0, 1), 0);
         at("along(0, 0)", stops.along(0, 0), 0);
         at("along(0, 2)", stops.along(0, 2), 1);
+        alongWithBox();
+    }
+
+    private static void alongWithBox() {
+        sentence(40, "the least of FREE less DEPTH of the load in its COLUMN");
+        SwingCrane x = crane("pile 0 5;spot a 3 1;spot b 0 1;spot c 0 2;");
+        at("along(0, 4): back over 1 FREE", x.along(0, 4), 0);
+        at("along(1, 4): 0 STEPS", x.along(1, 4), 0);
+        at("grab()", x.grab(), true);
+        at("along(0, 4): back over 2 FREE, the load 1 deep, whatever it HOLDS", x.along(0, 4), 1);
+        at("along(1, 4): 0 STEPS", x.along(1, 4), 1);
+        String wall = "width 9;deep 6;block 0 4 2;start 4 1;spot a 6 5;";
+        at("along(0, 4): behind each STEP", crane(wall).along(0, 4), PlainAnswers.crane(wall).along(0, 4));
+    }
+
+    /** 1 FREE under the crane; a BOX passes below the block at DEPTH 1 alone. */
+    private static final String LOADED = "width 8;deep 4;top 2;swing 3;block 3 4 2;pile 0 3;spot a 1 2;spot b 6 2;"
+            + "spot c 3 2;spot d 7 3;";
+
+    private static void dueAsPlain(int number, String call, long got, long want) {
+        promise = number;
+        at(call, got, want);
+    }
+
+    /** Ways are those of a crane that HOLDS, as long as it does, from NOW and from spots. */
+    private static void withBox() {
+        sentence(19, "whether it HOLDS a BOX is the same for all STATES at a time");
+        SwingCrane x = crane(LOADED);
+        PlainCrane plain = PlainAnswers.crane(LOADED);
+        int without = x.between(0, 1);
+        at("grab()", x.grab(), plain.grab());
+        dueAsPlain(23, "between(0, 1) is longer with a BOX", x.between(0, 1) > without ? 1 : 0, 1);
+        dueAsPlain(19, "fewest(2): it doesn't STAND with a BOX", x.fewest(2), -2);
+        int[] rows = {4, 7, 4};
+        for (int code : rows) {
+            steps(x, code);
+            plain.step(code / 3 - 1, code % 3 - 1);
+            for (int spot = 0; spot < 4; spot++) {
+                dueAsPlain(19, "fewest(" + spot + ")", x.fewest(spot), plain.fewest(spot));
+                dueAsPlain(20, "by(" + spot + ", 1)", x.by(spot, 1), plain.by(spot, 1));
+                dueAsPlain(25, "stop(" + spot + ")", x.stop(spot), plain.stop(spot));
+                dueAsPlain(29, "ifPile(6, " + spot + ")", x.ifPile(6, spot), plain.ifPile(6, spot));
+                dueAsPlain(35, "level(" + spot + ")", x.level(spot), plain.level(spot));
+                dueAsPlain(36, "ifWind(" + spot + ", 1)", x.ifWind(spot, 1), plain.ifWind(spot, 1));
+                dueAsPlain(38, "least(" + spot + ")", x.least(spot), plain.least(spot));
+                dueAsPlain(39, "steadiest(" + spot + ")", x.steadiest(spot), plain.steadiest(spot));
+                dueAsPlain(40, "along(" + spot + ", 4)", x.along(spot, 4), plain.along(spot, 4));
+                for (int other = 0; other < 4; other++) {
+                    dueAsPlain(23, "between(" + spot + ", " + other + ")", x.between(spot, other),
+                            plain.between(spot, other));
+                }
+            }
+            dueAsPlain(21, "halt()", x.halt(), plain.halt());
+            dueAsPlain(22, "rests(0)", x.rests(0), plain.rests(0));
+            dueAsPlain(24, "tour()", x.tour(), plain.tour());
+            dueAsPlain(30, "reach(1)", x.reach(1), plain.reach(1));
+            dueAsPlain(31, "safe(0)", x.safe(0), plain.safe(0));
+            dueAsPlain(32, "bears()", x.bears(), plain.bears());
+            dueAsPlain(37, "nearest()", x.nearest(), plain.nearest());
+        }
     }
 
     static void run() {
+        withBox();
         noSuchSpot();
         spotsOfAnEarlierText();
         sixSpots();
